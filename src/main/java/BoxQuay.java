@@ -1176,10 +1176,10 @@ public final class BoxQuay {
         }
     }
 
-    /** A stack of whole numbers without a greatest one: limbs to a base, a negative one as its complement. */
+    /** Sums and products that a long can't hold: numbers as limbs to a base, each limb with a sign of its own. */
     private static final class Wide {
         static final int BASE = 100000000;
-        // A rule has 198 operands at most, each below the root of the base; two limbs more keep the sign clear.
+        // A rule has 198 operands at most, each below the root of the base, so that no limb beyond is ever needed.
         static final int MOST_LIMBS = 101;
 
         private final int[][] row = new int[Terms.DEEPEST_STACK][MOST_LIMBS];
@@ -1231,17 +1231,17 @@ public final class BoxQuay {
             int carry = 0;
             for (int i = 0; i < limbs; i++) {
                 int sum = a[i] + b[i] + carry;
-                carry = sum >= BASE ? 1 : 0;
-                a[i] = sum - carry * BASE;
+                carry = sum / BASE;
+                a[i] = sum % BASE;
             }
         }
 
         private void subtract(int[] a, int[] b) {
-            int borrow = 0;
+            int carry = 0;
             for (int i = 0; i < limbs; i++) {
-                int rest = a[i] - b[i] - borrow;
-                borrow = rest < 0 ? 1 : 0;
-                a[i] = rest + borrow * BASE;
+                int sum = a[i] - b[i] + carry;
+                carry = sum / BASE;
+                a[i] = sum % BASE;
             }
         }
 
@@ -1263,18 +1263,20 @@ public final class BoxQuay {
         }
 
         private void compare(int kind, int[] a, int[] b) {
-            // From the highest limb on, the first that differs tells; a complement's highest one is great.
-            int sign = 0;
-            for (int i = limbs - 1; i >= 0 && sign == 0; i--) {
-                int half = i == limbs - 1 ? BASE / 2 : 0;
-                int ofA = a[i] >= half && half > 0 ? a[i] - BASE : a[i];
-                int ofB = b[i] >= half && half > 0 ? b[i] - BASE : b[i];
-                sign = ofA < ofB ? -1 : ofA > ofB ? 1 : 0;
+            // Carried upwards so that no limb is negative, the last carry has the difference's sign.
+            int carry = 0;
+            boolean alike = true;
+            for (int i = 0; i < limbs; i++) {
+                int sum = a[i] - b[i] + carry;
+                carry = Math.floorDiv(sum, BASE);
+                alike = alike && sum == carry * BASE;
             }
-            boolean holds = kind == Tokens.EQUAL ? sign == 0
-                    : kind == Tokens.UNLIKE ? sign != 0
-                    : kind == Tokens.BELOW ? sign < 0 : sign <= 0;
-            a[0] = holds ? 1 : 0;
+            boolean below = carry < 0;
+            alike = alike && carry == 0;
+            boolean so = kind == Tokens.EQUAL ? alike
+                    : kind == Tokens.UNLIKE ? !alike
+                    : kind == Tokens.BELOW ? below : below || alike;
+            a[0] = so ? 1 : 0;
         }
     }
 

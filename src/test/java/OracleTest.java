@@ -349,6 +349,23 @@ public final class OracleTest {
         {4, 0, 8, 40, 3, 4, 0, 0, 0, 0, 0, 16},
     };
 
+    /** Without this the holds would stay nearly empty: their covers lie at first. */
+    void fillHolds() {
+        for (int bay = 0; bay < o.told.bays; bay++) {
+            if (r.nextBoolean()) {
+                due("cover(" + bay + ",false)", x.cover(bay, false), o.cover(bay, false));
+                for (int i = 0; i < 5; i++) {
+                    int b = aBoxThatIs(0);
+                    int row = r.nextInt(4);
+                    due("load(" + b + "," + bay + "," + row + ")", x.load(b, bay, row), o.load(b, bay, row));
+                }
+                if (r.nextInt(4) > 0) {
+                    due("cover(" + bay + ",true)", x.cover(bay, true), o.cover(bay, true));
+                }
+            }
+        }
+    }
+
     void run(int[] mix) {
         int all = 0;
         for (int m : mix) {
@@ -360,6 +377,9 @@ public final class OracleTest {
         int boxes = r.nextInt(31);
         for (int i = 0; i < boxes; i++) {
             boxCall();
+        }
+        if (mix[3] >= 20) {
+            fillHolds();
         }
         while (trail.size() < 512 && bad == 0) {
             int k = r.nextInt(all);
@@ -373,7 +393,7 @@ public final class OracleTest {
     }
 
     public static void main(String[] args) {
-        int runs = args.length > 0 ? Integer.parseInt(args[0]) : 1200;
+        int runs = args.length > 0 ? Integer.parseInt(args[0]) : 400;
         long first = args.length > 1 ? Long.parseLong(args[1]) : 1;
         int wrong = 0;
         long calls = 0;
