@@ -362,8 +362,7 @@ public final class BoxQuay {
     }
 
     public int blocked() {
-        yard.layTurns();
-        return yard.blockers(0);
+        return yard.countBlockers();
     }
 
     // ---- facts ----
@@ -1268,7 +1267,7 @@ public final class BoxQuay {
             boolean alike = true;
             for (int i = 0; i < limbs; i++) {
                 int sum = a[i] - b[i] + carry;
-                carry = Math.floorDiv(sum, BASE);
+                carry = sum % BASE < 0 ? sum / BASE - 1 : sum / BASE;
                 alike = alike && sum == carry * BASE;
             }
             boolean below = carry < 0;
@@ -1760,7 +1759,7 @@ public final class BoxQuay {
             return best;
         }
 
-        /** Counts the rules that a box would break at each place to which it can come, another one loaded first or not. */
+        /** Counts the rules that a box would break at each place to which it, or one behind another, can come. */
         void countLone(int box) {
             for (int place = 0; place < ship.terms.bays * ROWS; place++) {
                 int tier = ship.freeTier(place / ROWS, place % ROWS);
@@ -1881,7 +1880,6 @@ public final class BoxQuay {
         final int[] leastDig = new int[MOST_DIGS];
         // By the digs made so far: the turn of each box in the stacks, their heights, the turn that is next.
         private final int[][] turns = new int[MOST_DIGS + 1][NEXT + 1];
-        private int served;
 
         Yard(Boxes boxes) {
             this.boxes = boxes;
@@ -1932,20 +1930,20 @@ public final class BoxQuay {
         // ---- digging
 
         /** Writes the boxes' turns as they stand, lorries without a box here left out: how many lorries. */
-        int layTurns() {
+        private int layTurns() {
             int[] now = turns[0];
             Arrays.fill(now, NEVER);
             System.arraycopy(high, 0, now, CELLS, STACKS);
             now[NEXT] = 0;
-            served = 0;
+            int turn = 0;
             for (int i = 0; i < lorries; i++) {
                 int box = lorry[i];
                 if (boxes.where[box] == IN_YARD) {
-                    now[boxes.bay[box] * STACK_ROOM + boxes.tier[box]] = served;
-                    served++;
+                    now[boxes.bay[box] * STACK_ROOM + boxes.tier[box]] = turn;
+                    turn++;
                 }
             }
-            return served;
+            return turn;
         }
 
         private static int topTurn(int[] now, int stack) {
@@ -2015,12 +2013,13 @@ public final class BoxQuay {
         }
 
         int digLeast() {
-            if (layTurns() > MOST_SEARCHED) {
+            int all = layTurns();
+            if (all > MOST_SEARCHED) {
                 return TOO_MANY;
             }
             for (int most = 0; most <= MOST_DIGS; most++) {
                 layTurns();
-                if (servesAll(0, most)) {
+                if (servesAll(turns, leastDig, all, 0, most)) {
                     return most;
                 }
             }
@@ -2028,13 +2027,14 @@ public final class BoxQuay {
         }
 
         /** Whether so many digs more serve all; the stacks are tried in their order, so the first way is found. */
-        private boolean servesAll(int made, int left) {
+        private static boolean servesAll(int[][] turns, int[] digs, int all, int made, int left) {
             int[] now = turns[made];
-            serve(now);
-            if (now[NEXT] >= served) {
+            serve(now, all);
+            if (now[NEXT] >= all) {
                 return true;
             }
-            if (made >= MOST_DIGS || blockers(made) > left) {
+            // Each box that stands on a sooner one needs a dig.
+            if (made >= MOST_DIGS || blockers(now) > left) {
                 return false;
             }
             for (int way = 0; way < STACKS * STACKS; way++) {
@@ -2045,16 +2045,16 @@ public final class BoxQuay {
                 }
                 System.arraycopy(now, 0, turns[made + 1], 0, NEXT + 1);
                 move(turns[made + 1], from, to);
-                leastDig[made] = 10 * from + to;
-                if (servesAll(made + 1, left - 1)) {
+                digs[made] = 10 * from + to;
+                if (servesAll(turns, digs, all, made + 1, left - 1)) {
                     return true;
                 }
             }
             return false;
         }
 
-        private void serve(int[] now) {
-            for (int i = 0; i < CELLS && now[NEXT] < served; i++) {
+        private static void serve(int[] now, int all) {
+            for (int i = 0; i < CELLS && now[NEXT] < all; i++) {
                 int stack = stackOf(now, now[NEXT]);
                 if (stack == NONE || topTurn(now, stack) != now[NEXT]) {
                     return;
@@ -2064,9 +2064,12 @@ public final class BoxQuay {
             }
         }
 
-        /** Boxes that stand on a sooner one; each needs a dig, so fewer digs can't do. */
-        int blockers(int made) {
-            int[] now = turns[made];
+        int countBlockers() {
+            layTurns();
+            return blockers(turns[0]);
+        }
+
+        private static int blockers(int[] now) {
             int n = 0;
             for (int stack = 0; stack < STACKS; stack++) {
                 int least = EMPTY;

@@ -22,12 +22,31 @@ public final class ArithmeticTest {
         int terms = r.nextInt(3);
         for (int i = 0; i < terms; i++) {
             s.append(r.nextBoolean() ? "+" : "-");
-            s.append(r.nextInt(4) == 0 ? "(" + product(3) + "-" + product(6) + ")*" + factor() : product(1 + r.nextInt(8)));
+            boolean deep = r.nextInt(4) == 0;
+            s.append(deep ? "(" + product(3) + "-" + product(6) + ")*" + factor() : product(1 + r.nextInt(8)));
         }
         return s.toString();
     }
 
+    /** Two sides that are alike, or differ by one, and have limbs that carry into one another. */
+    String identity() {
+        String a = product(1 + r.nextInt(6));
+        String b = product(1 + r.nextInt(6));
+        String c = factor();
+        String sign = new String[] {"==", "!=", "<", "<="}[r.nextInt(4)];
+        String off = new String[] {"", "+1", "-1"}[r.nextInt(3)];
+        switch (r.nextInt(4)) {
+            case 0: return "(" + a + "+" + b + ")*(" + a + "-" + b + ")" + sign + a + "*" + a + "-" + b + "*" + b + off;
+            case 1: return a + "+" + b + "-(" + a + ")" + off + sign + b;
+            case 2: return "(" + a + "+" + b + ")*" + c + sign + a + "*" + c + "+" + c + "*" + b + off;
+            default: return "(" + a + "-" + b + ")*" + c + off + sign + c + "*" + a + "-(" + c + "*" + b + ")";
+        }
+    }
+
     String condition() {
+        if (r.nextInt(3) == 0) {
+            return identity();
+        }
         String[] signs = {"==", "!=", "<", "<="};
         String left = side();
         String right = r.nextInt(3) == 0 ? left + (r.nextBoolean() ? "+" : "-") + r.nextInt(2) : side();

@@ -125,6 +125,11 @@ public final class FactTest {
         x.annul(0);
         Due.due("none is left", x.stopped(0, 7), 0);
         Due.due("before", x.stopped(0, 6), 1);
+        Due.due("customs are no sights", x.last(0, 4), -2);
+        Due.due("customs are no readings", x.agrees(4), 1);
+        x.sight(0, 2);
+        x.reading(0);
+        Due.due("sights and readings are no customs", x.stopped(0, 9), 0);
     }
 
     static void readings() {

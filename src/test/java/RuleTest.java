@@ -4,7 +4,9 @@ public final class RuleTest {
         pairsAndPlaces();
         variables();
         conditions();
+        deepest();
         greatNumbers();
+        everyRule();
         above();
         overstowsOfMany();
         coversToTake();
@@ -132,6 +134,16 @@ public final class RuleTest {
         holds("1-(1-(1-(1-(1-(1-(1)*2)*2)*2)*2)*2)*2 == 43", true);
     }
 
+    /** As many values as ever wait for one more. */
+    static void deepest() {
+        String deep = "1 + 2 * (1 + 2 * (1 + 2 * (1 + 2 * (1 + 2 * (1 + 2 * (1 + 2 * 3))))))";
+        holds("1 == 2 or 1 == 1 and 511 == " + deep, true);
+        holds("1 == 2 or 1 == 1 and not 511 == " + deep, false);
+        String great = "1 + 9999 * (1 + 9999 * (1 + 9999 * (1 + 9999 * (1 + 9999 * (1 + 9999 * (1 + 9999 * 3))))))";
+        holds("1 == 2 or 1 == 1 and 9999 * 9999 * 9999 * 9999 * 9999 * 9999 * 9999 * 3 < " + great, true);
+        holds("1 == 2 or 1 == 1 and " + great + " < 9999 * 9999 * 9999 * 9999 * 9999 * 9999 * 9999 * 3", false);
+    }
+
     static void greatNumbers() {
         holds("9999 * 9999 * 9999 == 0 - 1027*1000*1000 - 349*1000 - 969", false);
         holds("0 < 9999 * 9999 * 9999", true);
@@ -148,6 +160,39 @@ public final class RuleTest {
         holds("1" + Due.times(190, "*9999") + "<1", false);
         holds("1 <= 1" + Due.times(190, "*9999"), true);
         holds("(0-1)" + Due.times(189, "*9999") + "<0", true);
+        holds("1" + Due.times(190, "*1000") + "==0", false);
+        holds("1" + Due.times(190, "*1000") + "<=0", false);
+        holds("1" + Due.times(94, "*1000") + "==1000" + Due.times(93, "*1000"), true);
+    }
+
+    /** Eight rules of each kind, each true of other boxes; the last ones with great sums. */
+    static void everyRule() {
+        StringBuilder text = new StringBuilder();
+        for (int i = 0; i < 8; i++) {
+            char name = (char) ('a' + i);
+            text.append("pair p").append(name).append(" if weight<=").append(i).append(" and otier==2;");
+            text.append("place q").append(name).append(" if weight<").append(i).append(";");
+        }
+        BoxQuay x = new BoxQuay();
+        for (int i = 0; i < 8; i++) {
+            x.box(i + 1, 0, 0);
+            x.load(i, i / 4, i % 4);
+        }
+        Due.due("read", Due.read(x, text.toString()), 0);
+        for (int i = 0; i < 8; i++) {
+            Due.due("pairs(" + i + ")", x.pairs(i), 7 * i);
+            Due.due("places(" + i + ")", x.places(i), Math.max(0, i - 1));
+        }
+        Due.due("read", Due.read(x, "pair a if weight*9999*9999*9999*9999*9999<3*9999*9999*9999*9999*9999;"
+                + "pair b if 1000*1000*1000*1000*1000*1000*1000 < oweight; place c if weight == 8;"
+                + "place d if 7*1000*1000*1000*1000*1000*1000*1000 <= weight*1000*1000*1000*1000*1000*1000*1000;"), 0);
+        Due.due("great sums", x.pairs(0), 14);
+        Due.due("great sums", x.pairs(1), 0);
+        Due.due("small sums", x.places(0), 1);
+        Due.due("great sums", x.places(1), 2);
+        Due.due("the same names again", Due.read(x, "pair a if 1<2; place c if 1<2;"), 0);
+        Due.due("small sums again", x.pairs(0), 56);
+        Due.due("the same names again", Due.read(x, "pair a if 1<2; place c if 1<2;"), 0);
     }
 
     static void above() {
@@ -214,6 +259,19 @@ public final class RuleTest {
         Due.due("first", x.overstow(3, 0), 5);
         x.load(6, 1, 2);
         Due.due("another bay", x.overstows(-1), 5);
+        BoxQuay y = new BoxQuay();
+        y.box(1, 3, 0);
+        y.box(1, 1, 0);
+        y.cover(0, false);
+        y.load(1, 0, 2);
+        y.cover(0, true);
+        y.load(0, 0, 0);
+        Due.due("lowest on deck, another row", y.overstows(1), 1);
+        Due.due("box 0", y.overstow(1, 0), 0);
+        Due.due("all", y.overstows(-1), 1);
+        Due.due("above", y.above(1), 1);
+        Due.due("bay 0, box on deck in row 0", y.covers(1), 1);
+        Due.due("its cover can't be taken", y.cover(0, false), false);
     }
 
     static void coversToTake() {

@@ -164,6 +164,7 @@ public final class ShipTest {
         Due.due("too heavy, but no room first", x.load(5, 1, 1), -1);
         Due.due("lift 10", Due.read(x, "lift 10;"), 0);
         Due.due("just borne", x.load(5, 2, 0), 2);
+        Due.due("a lift as great", x.unload(2, 0, -1), 1);
     }
 
     static void unloading() {
@@ -216,6 +217,12 @@ public final class ShipTest {
         Due.due("away", x.of(5, 4), 0);
         Due.due("away", x.of(6, 4), 0);
         Due.due("still stuck", x.of(6, 3), 1);
+        x.load(5, 1, 1);
+        x.load(6, 1, 1);
+        x.store(7, 3);
+        x.fetch(1);
+        Due.due("just room for two", x.unload(1, 1, 1), 2);
+        Due.due("full", x.unload(2, 1, 1), -1);
     }
 
     static void balance() {
@@ -301,5 +308,20 @@ public final class ShipTest {
         Due.due("bend worse", x.load(5, 0, 1), -3);
         Due.due("read", Due.read(x, "bays 2; bend 10;"), 0);
         Due.due("bend borne", x.load(5, 0, 1), 2);
+        BoxQuay y = new BoxQuay();
+        Due.due("read", Due.read(y, "bays 2;"), 0);
+        y.box(5, 0, 0);
+        y.box(10, 0, 0);
+        y.load(0, 0, 0);
+        Due.due("read", Due.read(y, "bays 2; list 9; trim 4; bend 4;"), 0);
+        // List -15 to 15, trim -5 to 5, bend 5 as before.
+        Due.due("as great the other way", y.load(1, 1, 3), 2);
+        Due.due("list", y.ship(0), 15);
+        Due.due("trim", y.ship(1), 5);
+        Due.due("and back", y.unload(1, 3, -1), 1);
+        BoxQuay z = new BoxQuay();
+        z.box(1, 0, 0);
+        z.load(0, 2, 1);
+        Due.due("the lightest stands there too", Due.read(z, "bays 2;"), -3);
     }
 }

@@ -152,6 +152,18 @@ public final class StowTest {
         Due.due("one above the other", x.bestTwo(0, 1), 0);
         // The overstow counts as much as the rule: a bay each is the first with two broken, but one rule is less.
         Due.due("or in bay 1 for the other", x.bestTwo(1, 0), 10);
+        Due.due("read", Due.read(x, "place high if tier == 3;"), 0);
+        Due.due("not on the first one", x.bestTwo(0, 1), 1);
+        Due.due("read", Due.read(x, "place low if tier == 2; place right if 0 < row;"), 0);
+        Due.due("on the first one", x.bestTwo(0, 1), 0);
+        for (int bay = 0; bay < 3; bay++) {
+            x.cover(bay, false);
+        }
+        Due.due("in the holds", x.best(0), 0);
+        Due.due("in the holds", x.bestTwo(0, 1), 0);
+        Due.due("read", Due.read(x, "place high if tier == 1; place left if bay + row == 0;"), 0);
+        Due.due("in the holds", x.best(0), 1);
+        Due.due("side by side in the holds", x.bestTwo(0, 1), 102);
         x.store(0, 0);
         Due.due("not away", x.bestTwo(0, 1), -1);
         Due.due("not away", x.bestTwo(1, 0), -1);

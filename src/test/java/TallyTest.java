@@ -77,6 +77,9 @@ public final class TallyTest {
         Due.due("then the next", y.mate(1, 2), 1);
         Due.due("d is the most", y.mate(0, 1), -2);
         Due.due("alone", y.alone(1, 2), 1);
+        y.tally(1, 0, false, 10);
+        Due.due("in the same tick", y.mate(0, 0), 3);
+        Due.due("taken", y.mate(1, 0), -2);
     }
 
     static void odd() {

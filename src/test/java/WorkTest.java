@@ -24,6 +24,7 @@ public final class WorkTest {
         wrongOnes();
         both();
         sides();
+        waysThatCross();
         results();
         wind();
         shifts();
@@ -138,6 +139,44 @@ public final class WorkTest {
         job(y, 0, 2, 0, 0, 2, 2);
         job(y, 1, 2, 0, 3, 4, 2);
         crane(y, 1, 2, -1, 0, 0, 0);
+    }
+
+    static BoxQuay with(int[][] loads) {
+        BoxQuay x = with(loads.length);
+        Due.due("read", Due.read(x, "bays 5;"), 0);
+        for (int i = 0; i < loads.length; i++) {
+            Due.due("job", x.jobLoad(i, loads[i][0], loads[i][1]), i);
+        }
+        return x;
+    }
+
+    static void waysThatCross() {
+        // B goes down to bay 1 from tick 0 on: job 2, there too, is not A's, though B stands higher yet.
+        BoxQuay x = with(new int[][] {{0, 0}, {1, 0}, {1, 1}});
+        Due.due("ticks 0 to 2", x.work(3), 1);
+        job(x, 2, 0, -100);
+        Due.due("ticks 3 to 6", x.work(4), 2);
+        job(x, 1, 2, 1, 0, 4, 2);
+        job(x, 2, 2, 1, 5, 6, 2);
+        // A goes up to bay 2: job 1, there too, is not B's, though A stands lower yet.
+        BoxQuay y = with(new int[][] {{2, 0}, {2, 1}});
+        Due.due("ticks 0 to 5", y.work(6), 2);
+        job(y, 0, 2, 0, 0, 3, 2);
+        job(y, 1, 2, 0, 4, 5, 2);
+        crane(y, 1, 4, -1, 0, 0, 0);
+        // A goes down from bay 3 to bay 0: while it stands over bay 2, that one is not B's.
+        BoxQuay z = with(new int[][] {{3, 0}, {0, 0}, {2, 0}, {3, 1}});
+        Due.due("ticks 0 to 10", z.work(11), 4);
+        job(z, 0, 2, 0, 0, 4, 2);
+        job(z, 1, 2, 0, 5, 9, 2);
+        job(z, 3, 2, 1, 5, 7, 2);
+        job(z, 2, 2, 1, 8, 10, 2);
+        // B goes up from bay 2 to bay 4: while it stands over bay 3, that one is not A's.
+        BoxQuay t = with(new int[][] {{0, 0}, {2, 0}, {4, 0}, {3, 1}});
+        Due.due("ticks 0 to 10", t.work(11), 4);
+        job(t, 1, 2, 1, 0, 3, 2);
+        job(t, 2, 2, 1, 4, 7, 2);
+        job(t, 3, 2, 0, 6, 10, 2);
     }
 
     static void results() {
