@@ -9,6 +9,7 @@ public final class TextTest {
         whichFirst();
         whatIsTold();
         whatStays();
+        fullTape();
         Due.end();
     }
 
@@ -157,6 +158,28 @@ public final class TextTest {
         Due.fault("bays 9;bays", 1, 11);
         Due.fault("pair a if 1<2;pair a if 1<2;#", 1, 28);
         Due.fault("bays 9; pair a if (((((((1)))))))<2;", 2, 24);
+    }
+
+    /** Texts of 2,000 bytes, which end in the midst of each kind of token, or at its end. */
+    static void fullTape() {
+        Due.fault(Due.times(2000, " "), 0, -1);
+        Due.fault(Due.times(1993, " ") + "bays 3;", 0, -1);
+        Due.fault(Due.times(1994, " ") + "bays 3", 1, 2000);
+        Due.fault(Due.times(1996, " ") + "bays", 1, 2000);
+        Due.fault(Due.times(1999, " ") + "b", 1, 1999);
+        Due.fault(Due.times(1988, " ") + "pair a if 1<", 1, 2000);
+        Due.fault(Due.times(1987, " ") + "pair a if 1<=", 1, 2000);
+        Due.fault(Due.times(1988, " ") + "pair a if 1=", 1, 1999);
+        Due.fault(Due.times(1988, " ") + "pair a if 1!", 1, 1999);
+        Due.fault(Due.times(2000, "a"), 1, 0);
+        Due.fault("bays " + Due.times(1995, "1"), 1, 5);
+        // What an earlier tape had behind the end of this one does not count.
+        BoxQuay x = new BoxQuay();
+        Due.feed(x, "list 1234; trim 5;");
+        x.back(10);
+        Due.due("cut within an INT", x.count(8), 8);
+        Due.due("read", x.read(), 1);
+        Due.due("place", x.place(), 8);
     }
 
     static void whatIsTold() {
