@@ -13,6 +13,8 @@ public final class EdgeFactTest {
         weighs();
         suspects();
         knownBy();
+        kinds();
+        thirtyBoxes();
         Edge.end();
     }
 
@@ -247,6 +249,52 @@ public final class EdgeFactTest {
         Edge.sentence("43 suspects: NONE: no such n.");
         Edge.refusedFor("suspects(*)", READ, (x, n) -> x.suspects(n), -1, -1, 5, 60, Edge.LEAST, Edge.GREATEST);
         Edge.refused("suspects(1) of none", Edge.NEW, x -> x.suspects(1), -1);
+    }
+
+    /** Each kind of fact counts for its own questions alone. */
+    static void kinds() {
+        Edge.sentence("IV: A SIGHT .. A STOP, a FREE .. A READING .. A VOID: each its own");
+        Edge.Deed one = Edge.boxes(2).then(Edge.load(0, 0, 0)).then(Edge.store(1, 0));
+        Edge.Deed[] facts = {x -> x.sight(1, 0), x -> x.sight(1, 1), x -> x.customs(1, true), x -> x.customs(1, false),
+            x -> x.reading(-30), x -> x.reading(-33)};
+        int[] last = {0, 1, -2, -2, -2, -2};
+        int[] stopped = {0, 0, 1, 0, 0, 0};
+        int[] agrees = {1, 1, 1, 1, 1, 0};
+        int[] suspects = {3, 3, 3, 3, 2, 1};
+        for (int i = 0; i < facts.length; i++) {
+            Edge.Deed told = one.then(facts[i]);
+            Edge.answers("last, fact " + i, told, x -> x.last(1, 1), last[i]);
+            Edge.answers("last of the other, fact " + i, told, x -> x.last(0, 1), -2);
+            Edge.answers("path, fact " + i, told, x -> x.path(1, 1, 0), last[i] == -2 ? -1 : last[i]);
+            Edge.answers("stopped, fact " + i, told, x -> x.stopped(1, 1), stopped[i]);
+            Edge.answers("stopped of the other, fact " + i, told, x -> x.stopped(0, 1), 0);
+            Edge.answers("agrees, fact " + i, told, x -> x.agrees(1), agrees[i]);
+            Edge.answers("suspects, fact " + i, told, x -> x.suspects(1), suspects[i]);
+            Edge.answers("fetch, fact " + i, told, x -> x.fetch(0), stopped[i] == 1 ? -2 : 1);
+            Edge.alike("its void, for the yard and the ship", one.then(x -> x.reading(-30)).then(x -> x.annul(0))
+                    .then(Edge.load(1, 1, 1)).then(x -> x.unload(1, 1, -1)), one.then(x -> x.reading(-30))
+                    .then(x -> x.annul(0)).then(x -> x.fetch(0)));
+            Edge.answers("void, last", told.then(x -> x.annul(0)), x -> x.last(1, 2), -2);
+            Edge.answers("void, stopped", told.then(x -> x.annul(0)), x -> x.stopped(1, 2), 0);
+            Edge.answers("void, agrees", told.then(x -> x.annul(0)), x -> x.agrees(2), 1);
+            Edge.answers("void, suspects", told.then(x -> x.annul(0)), x -> x.suspects(2), 3);
+        }
+        Edge.answers("a reading while none is aboard", Edge.boxes(2).then(x -> x.reading(0)), x -> x.agrees(1), 1);
+        Edge.answers("those ashore are not in it", Edge.boxes(2).then(x -> x.reading(3)), x -> x.suspects(1), 0);
+    }
+
+    static void thirtyBoxes() {
+        Edge.sentence("II, IV: BOXES, 30 at most: the 30th is known as the others");
+        Edge.Deed all = Edge.boxes(30).then(Edge.load(29, 0, 3)).then(x -> x.reading(33)).then(x -> x.sight(29, 4))
+                .then(x -> x.customs(29, true));
+        Edge.answers("agrees", all, x -> x.agrees(1), 0);
+        Edge.answers("weighs", all, x -> x.weighs(29, 1), 11);
+        Edge.answers("weighs another", all, x -> x.weighs(28, 1), -2);
+        Edge.answers("suspects", all, x -> x.suspects(1), 1 << 29);
+        Edge.answers("last", all, x -> x.last(29, 3), 4);
+        Edge.answers("stopped", all, x -> x.stopped(29, 3), 1);
+        Edge.answers("stopped, another", all, x -> x.stopped(28, 3), 0);
+        Edge.answers("as told, all are there", Edge.boxes(30).then(x -> x.reading(0)), x -> x.agrees(1), 1);
     }
 
     static void knownBy() {

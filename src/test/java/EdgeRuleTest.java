@@ -4,6 +4,11 @@ public final class EdgeRuleTest {
         pairs();
         pair();
         places();
+        eighth();
+        variables();
+        comparisons();
+        order();
+        greatNumbers();
         breaks();
         above();
         overstows();
@@ -76,6 +81,124 @@ public final class EdgeRuleTest {
         Edge.answers("of a alone", plug, x -> x.pairs(0), 1);
     }
 
+    /** Eight of each kind, each true of other boxes. */
+    static void eighth() {
+        StringBuilder text = new StringBuilder();
+        for (int i = 0; i < 8; i++) {
+            char name = (char) ('a' + i);
+            text.append("pair p").append(name).append(" if weight == ").append(i + 1).append(" and oweight != 9;");
+            text.append("place q").append(name).append(" if weight <= ").append(i + 1).append(";");
+        }
+        Edge.sentence("17, 19: of eight rules each has its own COND");
+        Edge.Deed told = Edge.text(text.toString()).then(x -> {
+            for (int i = 0; i < 9; i++) {
+                x.box(i + 1, 0, 0);
+                x.load(i, i / 4, i % 4);
+            }
+        });
+        for (int i = 0; i < 8; i++) {
+            int rule = i;
+            Edge.answers("pairs(" + i + ")", told, x -> x.pairs(rule), 7);
+            Edge.answers("pair(" + i + ", 0)", told, x -> x.pair(rule, 0), i == 0 ? 1 : 100 * i);
+            Edge.answers("pair(" + i + ", 6)", told, x -> x.pair(rule, 6), 100 * i + (i == 7 ? 6 : 7));
+            Edge.answers("places(" + i + ")", told, x -> x.places(rule), i + 1);
+        }
+    }
+
+    static void variables() {
+        Edge.sentence("II: sort, weight, port, bay, row, tier of a, osort .. otier of b");
+        String[] names = {"sort", "weight", "port", "bay", "row", "tier"};
+        // a: box 0; b: box 2, on box 1.
+        int[] a = {5, 40, 4, 1, 3, 2};
+        int[] b = {1, 7, 2, 0, 1, 3};
+        Edge.Deed told = Edge.box(40, 4, 5).then(Edge.box(6, 3, 3)).then(Edge.box(7, 2, 1)).then(Edge.load(0, 1, 3))
+                .then(Edge.load(1, 0, 1)).then(Edge.load(2, 0, 1));
+        for (int i = 0; i < names.length; i++) {
+            String both = names[i] + " == " + a[i] + " and o" + names[i] + " == " + b[i];
+            String off = names[i] + " == " + a[i] + " and o" + names[i] + " == " + (b[i] + 10);
+            Edge.answers(both, told.then(Edge.text("pair p if weight == 40 and oweight == 7 and " + both + ";")),
+                    x -> x.pair(0, 0), 2);
+            Edge.answers(off, told.then(Edge.text("pair p if " + off + ";")), x -> x.pairs(0), 0);
+            Edge.answers(names[i] + " alone", told.then(Edge.text("place p if weight == 40 and " + names[i] + " == " + a[i]
+                    + " and o" + names[i] + " == 0;")), x -> x.places(0), 1);
+            Edge.answers(names[i] + " alone, another", told.then(Edge.text("place p if weight == 40 and " + names[i]
+                    + " == " + (a[i] + 1) + ";")), x -> x.places(0), 0);
+        }
+    }
+
+    /** Whether a condition holds of a box of weight 10, for port 2, of sort 3, in bay 1, row 2, tier 2. */
+    static void holds(String condition, boolean due) {
+        Edge.answers(condition, Edge.box(10, 2, 3).then(Edge.load(0, 1, 2)).then(Edge.text("place a if " + condition + ";")),
+                x -> x.places(0), due ? 1 : 0);
+        Edge.answers("not " + condition, Edge.box(10, 2, 3).then(Edge.load(0, 1, 2))
+                .then(Edge.text("place a if 1 == 2 or not not " + condition + ";")), x -> x.places(0), due ? 1 : 0);
+    }
+
+    static void comparisons() {
+        Edge.sentence("I: E ('==' | '!=' | '<' | '<=') E");
+        String[] signs = {"==", "!=", "<", "<="};
+        boolean[][] due = {{false, true, true, true}, {true, false, false, true}, {false, true, false, false}};
+        for (int i = 0; i < 4; i++) {
+            holds("9 " + signs[i] + " weight", due[0][i]);
+            holds("10 " + signs[i] + " weight", due[1][i]);
+            holds("11 " + signs[i] + " weight", due[2][i]);
+            holds("0 - 1 " + signs[i] + " 0", due[0][i]);
+            holds("9999 " + signs[i] + " 9999", due[1][i]);
+            holds("9999 " + signs[i] + " 9998", due[2][i]);
+        }
+    }
+
+    static void order() {
+        Edge.sentence("I: COND: ALL {'or' ALL}. ALL: LIT {'and' LIT}. E: PART {('+' | '-') PART}. PART: UNIT {'*' UNIT}.");
+        holds("1 == 1 or 1 == 1 and 1 == 2", true);
+        holds("1 == 2 and 1 == 1 or 1 == 1", true);
+        holds("1 == 2 and 1 == 2 or 1 == 2", false);
+        holds("2 + 3 * 4 == 14", true);
+        holds("2 * 3 + 4 == 10", true);
+        holds("20 - 3 * 4 == 8", true);
+        holds("10 - 3 - 2 == 5", true);
+        holds("10 - 3 + 2 == 9", true);
+        holds("10 + 3 - 2 + 1 == 12", true);
+        holds("10 - (3 - 2) == 9", true);
+        holds("(2 + 3) * (4 - 1) == 15", true);
+        holds("2 * (3 + 4) * 5 == 70", true);
+        holds("1 + 2 == 4 - 1", true);
+        holds("weight * port - sort == 17", true);
+        // The deepest that can be: on each of seven levels a sum and a product wait for one unit more.
+        holds("511 == 1 + 2 * (1 + 2 * (1 + 2 * (1 + 2 * (1 + 2 * (1 + 2 * (1 + 2 * 3))))))", true);
+        Edge.sentence("I: LIT: 'not' LIT");
+        Edge.Deed one = Edge.boxes(1).then(Edge.load(0, 0, 0));
+        Edge.answers("not of the first alone", one.then(Edge.text("place a if not 1 == 2 and 1 == 2;")),
+                x -> x.places(0), 0);
+        Edge.answers("not of the first alone", one.then(Edge.text("place a if not 1 == 1 or 1 == 1;")),
+                x -> x.places(0), 1);
+        Edge.answers("not of a sum's comparison", one.then(Edge.text("place a if not 1 + 1 == 2;")), x -> x.places(0),
+                0);
+        Edge.answers("of the second", one.then(Edge.text("place a if 1 == 1 and not 1 == 2;")), x -> x.places(0), 1);
+        Edge.answers("thrice", one.then(Edge.text("place a if not not not 1 == 2;")), x -> x.places(0), 1);
+    }
+
+    /** The document tells no wrap-around: at the edges of an int and of a long numbers only become greater. */
+    static void greatNumbers() {
+        Edge.sentence("I: INTS (1 to 4 digits), and no greatest one for sums and products of them");
+        String[] powers = {"2048*1024*1024", "4096*1024*1024", "8*1024*1024*1024*1024*1024*1024",
+            "16*1024*1024*1024*1024*1024*1024", "9999*9999*9999", "9999*9999*9999*9999*9999",
+            "1" + Due.times(40, "*1024")};
+        for (String p : powers) {
+            holds("0 < " + p, true);
+            holds(p + " <= 0", false);
+            holds(p + " == 0", false);
+            holds(p + " - 1 < " + p, true);
+            holds(p + " < " + p + " + 1", true);
+            holds(p + " + 1 <= " + p, false);
+            holds(p + " == " + p, true);
+            holds(p + " - " + p + " == 0", true);
+            holds("0 - " + p + " < 0", true);
+            holds("0 - " + p + " - 1 < 0 - " + p, true);
+            holds("(0 - " + p + ") * (0 - " + p + ") == " + p + "*" + p, true);
+        }
+    }
+
     static void breaks() {
         Edge.sentence("20 breaks: How many rules more (each way counts) would be BROKEN");
         // All: three others, both ways. Up: the new one stands on tier 3 above two on tier 2. Some: row 1.
@@ -108,6 +231,16 @@ public final class EdgeRuleTest {
                 .then(Edge.load(2, 0, 3)).then(Edge.recover(0)).then(Edge.load(3, 0, 0)).then(Edge.load(4, 0, 0))
                 .then(Edge.load(5, 0, 2)).then(Edge.load(6, 1, 0));
         int[] due = {4, 3, 3, 1, 0, 0, 0};
+        for (int row = 0; row < 4; row++) {
+            Edge.Deed hold = Edge.boxes(4).then(Edge.uncover(1)).then(Edge.load(0, 1, 3)).then(Edge.recover(1));
+            Edge.answers("none on the decks", hold, x -> x.above(0), 0);
+            Edge.answers("one on the deck of row " + row, hold.then(Edge.load(1, 1, row)), x -> x.above(0), 1);
+            Edge.answers("two on it", hold.then(Edge.load(1, 1, row)).then(Edge.load(2, 1, row)), x -> x.above(0), 2);
+            Edge.answers("one of another bay", hold.then(Edge.load(1, 0, row)).then(Edge.load(2, 2, row)),
+                    x -> x.above(0), 0);
+            Edge.answers("in the hold of row " + row, Edge.boxes(4).then(Edge.uncover(1)).then(Edge.load(0, 1, row))
+                    .then(Edge.load(1, 1, (row + 1) % 4)), x -> x.above(0), 0);
+        }
         for (int i = 0; i < due.length; i++) {
             int box = i;
             Edge.answers("above(" + i + ")", stack, x -> x.above(box), due[i]);
@@ -137,6 +270,14 @@ public final class EdgeRuleTest {
         Edge.answers("above two of that port counts once", below(0, 1).then(Edge.box(1, 0, 0))
                 .then(x -> x.unload(0, 0, -1)).then(Edge.uncover(0)).then(Edge.load(2, 0, 2)).then(Edge.recover(0))
                 .then(Edge.load(1, 0, 0)), x -> x.overstows(0), 1);
+        Edge.Deed first = Edge.box(1, 3, 0).then(Edge.box(1, 1, 0)).then(Edge.load(1, 0, 0)).then(Edge.load(0, 0, 0));
+        Edge.answers("the first box is one", first, x -> x.overstows(1), 1);
+        Edge.answers("of all: the first box is one", first, x -> x.overstows(-1), 1);
+        Edge.Deed last = Edge.text("bays 5;").then(Edge.boxes(28)).then(Edge.box(1, 0, 0)).then(Edge.box(1, 1, 0))
+                .then(Edge.load(28, 4, 3)).then(Edge.load(29, 4, 3));
+        Edge.answers("the 30th box is one", last, x -> x.overstows(0), 1);
+        Edge.answers("of all: the 30th box is one", last, x -> x.overstows(-1), 1);
+        Edge.answers("it is box 29", last, x -> x.overstow(0, 0), 29);
         Edge.answers("not in another bay", below(0, 0).then(Edge.box(1, 4, 0)).then(Edge.load(2, 1, 0)),
                 x -> x.overstows(-1), 0);
         Edge.sentence("22 overstows: (NONE: of all), the sum over PORTS");

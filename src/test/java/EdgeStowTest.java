@@ -103,6 +103,18 @@ public final class EdgeStowTest {
         Edge.refused("then the bay", below.then(Edge.text("place a if row < 2;")), x -> x.best(1), 2);
         Edge.refused("a bay ahead of a row", Edge.text("place a if bay == 0 and row < 3;").then(Edge.boxes(1)),
                 x -> x.best(0), 3);
+        Edge.sentence("VII: of all BAYS, ROWS to which LOADING could be done now");
+        Edge.Deed holds = Edge.boxes(30).then(Edge.uncover(0)).then(Edge.uncover(1)).then(Edge.uncover(2));
+        Edge.refused("into a hold", holds, x -> x.best(0), 0);
+        Edge.refused("both into a hold", holds, x -> x.bestTwo(0, 1), 0);
+        Edge.refused("tier 0 is one", holds.then(Edge.text("place a if tier == 1;")).then(Edge.load(2, 0, 0)),
+                x -> x.best(0), 1);
+        Edge.refused("full holds", holds.then(x -> {
+            for (int i = 0; i < 24; i++) {
+                x.load(i, i / 8, i / 2 % 4);
+            }
+        }), x -> x.best(24), -2);
+        Edge.refused("from the yard none", Edge.boxes(1).then(Edge.store(0, 0)), x -> x.best(0), -1);
     }
 
     static void bestTwo() {
@@ -153,6 +165,18 @@ public final class EdgeStowTest {
         // Beside one another two ways, on one another an overstow alone.
         Edge.refused("two ways are dearer than one overstow", later.then(Edge.text("pair p if not row == orow;"
                 + "pair q if not bay == obay;")), x -> x.bestTwo(0, 1), 0);
+        // What the other one breaks depends on where, and on which tier, it stands.
+        Edge.refused("the other not on the first", Edge.text("place a if tier == 3;").then(Edge.boxes(2)),
+                x -> x.bestTwo(0, 1), 1);
+        Edge.refused("the other on the first", Edge.text("place a if tier == 2;").then(Edge.boxes(2)),
+                x -> x.bestTwo(0, 1), 0);
+        Edge.refused("the other in the last place", Edge.box(10, 0, 0).then(Edge.box(10, 0, 1))
+                .then(Edge.text("place a if sort == 1 and not bay * 4 + row == 11;")), x -> x.bestTwo(0, 1), 23);
+        Edge.refused("the other in the last place, higher", Edge.box(10, 0, 0).then(Edge.box(10, 0, 1))
+                .then(Edge.text("place a if sort == 1 and not bay * 16 + row * 4 + tier == 47;")), x -> x.bestTwo(0, 1),
+                2323);
+        Edge.refused("the other one's rules with those aboard", Edge.boxes(3).then(Edge.load(2, 0, 0))
+                .then(Edge.text("pair a if bay == obay and tier != otier;")), x -> x.bestTwo(0, 1), 102);
         // LIST 10 at most: the first to row 1, the other then to row 2, or to row 3 of a list of -10 + 30.
         Edge.refused("the other as the first one stands", Edge.text("list 10; trim 0;").then(Edge.boxes(2)),
                 x -> x.bestTwo(0, 1), 1112);

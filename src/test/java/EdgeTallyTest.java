@@ -127,7 +127,7 @@ public final class EdgeTallyTest {
         Edge.sentence("54 odd: How many BOXES have not as many rows on as off, or one more on, in a book");
         for (int on = 0; on <= 4; on++) {
             for (int off = 0; off <= 4; off++) {
-                Edge.Deed told = Edge.boxes(2).then(Edge.times(on, row(0, 1, true, 3)))
+                Edge.Deed told = Edge.boxes(3).then(Edge.times(on, row(0, 1, true, 3)))
                         .then(Edge.times(off, row(0, 1, false, 3)));
                 Edge.answers(on + " on, " + off + " off", told, x -> x.odd(0), on == off || on == off + 1 ? 0 : 1);
                 Edge.answers("the other book", told, x -> x.odd(1), 0);
@@ -140,6 +140,10 @@ public final class EdgeTallyTest {
         });
         Edge.answers("thirty boxes", thirty, x -> x.odd(1), 30);
         Edge.answers("no rows", Edge.boxes(3), x -> x.odd(0), 0);
+        Edge.answers("the first box", Edge.boxes(3).then(row(0, 0, false, 3)), x -> x.odd(0), 1);
+        Edge.answers("the last box", Edge.boxes(3).then(row(0, 2, false, 3)), x -> x.odd(0), 1);
+        Edge.answers("rows of two boxes are not joined", Edge.boxes(3).then(row(0, 0, false, 3))
+                .then(row(0, 1, true, 3)), x -> x.odd(0), 1);
         Edge.sentence("54 odd: NONE: no such book.");
         Edge.refusedFor("odd(*)", thirty, (x, n) -> x.odd(n), -1, -1, 2, Edge.LEAST, Edge.GREATEST);
     }

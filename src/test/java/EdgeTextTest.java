@@ -97,6 +97,20 @@ public final class EdgeTextTest {
         Edge.answers("back(1)", Edge.tape("list 7;"), x -> x.back(1), 6);
         Edge.answers("back of all", Edge.tape("list 7;"), x -> x.back(7), 0);
         Edge.answers("back of 2,000", bytes(2000), x -> x.back(2000), 0);
+        Edge.sentence("3 back: what has gone does not count when the tape is read");
+        String[] whole = {"list 1234;", "list 1234;", "place a if 1<=2;", "place a if 1==2;", "pairs a if 1<2;", "list 7;x"};
+        int[] gone = {3, 1, 3, 3, 11, 1};
+        int[] faults = {1, 1, 1, 1, 1, 0};
+        int[] places = {7, 9, 13, 12, 4, -1};
+        for (int i = 0; i < whole.length; i++) {
+            int n = gone[i];
+            Edge.Deed cut = Edge.tape(whole[i]).then(x -> x.back(n));
+            Edge.answers(whole[i] + " less " + n, cut, x -> x.read(), faults[i]);
+            Edge.answers(whole[i] + " less " + n, cut.then(x -> x.read()), x -> x.place(), places[i]);
+        }
+        Edge.Deed sign = Edge.tape(Due.times(1984, " ") + "place a if 1<=2;").then(x -> x.back(3));
+        Edge.answers("a sign cut at the end", sign, x -> x.read(), 1);
+        Edge.answers("its place", sign.then(x -> x.read()), x -> x.place(), 1997);
         Edge.sentence("3 back: NONE, and nothing goes, if it has not so many");
         Edge.refusedFor("back(*) of none", Edge.NEW, (x, n) -> x.back(n), -1, 1, 2, Edge.GREATEST);
         Edge.refusedFor("back(*) of seven", Edge.tape("list 7;"), (x, n) -> x.back(n), -1, 8, 9, Edge.GREATEST);
@@ -559,6 +573,8 @@ public final class EdgeTextTest {
             }
             Edge.answers("not told, a box in bay " + bay, one, x -> x.read(), bay < 3 ? 0 : -3);
         }
+        Edge.answers("the lightest counts", Edge.box(1, 0, 0).then(Edge.load(0, 2, 0)).then(Edge.tape("bays 2;")),
+                x -> x.read(), -3);
         Edge.Deed hold = Edge.text("bays 5;").then(Edge.boxes(1)).then(Edge.uncover(4)).then(Edge.load(0, 4, 0));
         Edge.answers("one in a hold", hold.then(Edge.tape("bays 4;")), x -> x.read(), -3);
         Edge.answers("none that is gone", hold.then(x -> x.unload(4, 0, -1)).then(Edge.tape("bays 4;")),

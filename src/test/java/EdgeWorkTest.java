@@ -128,6 +128,12 @@ public final class EdgeWorkTest {
         Edge.answers("LIFT", two.then(Edge.text("lift 9;")).then(x -> x.jobUnload(0, 0, -1)).then(work(2)), result, -2);
         Edge.answers("not BORNE", two.then(Edge.text("list 60;")).then(x -> x.jobLoad(2, 0, 1)).then(work(2)), result,
                 -3);
+        Edge.Deed stacked = two.then(x -> x.jobUnload(0, 0, 2)).then(work(2));
+        Edge.answers("to its stack", stacked, x -> x.of(1, 5), 2);
+        Edge.answers("in the yard", stacked, x -> x.of(1, 4), 2);
+        Edge.answers("away", two.then(x -> x.jobUnload(0, 0, -1)).then(work(2)), x -> x.of(1, 4), 0);
+        Edge.answers("to the first stack", two.then(x -> x.jobUnload(0, 0, 0)).then(work(2)), x -> x.of(1, 5), 0);
+        Edge.answers("to the last stack", two.then(x -> x.jobUnload(0, 0, 3)).then(work(2)), x -> x.of(1, 5), 3);
         Edge.answers("it is done, whatever its result", two.then(x -> x.jobLoad(2, 0, 0)).then(work(2)),
                 x -> x.count(15), 1);
         Edge.alike("a job that is tried in vain: the ship and the yard as if there were none",
@@ -192,6 +198,12 @@ public final class EdgeWorkTest {
         Edge.answers("the bay of B's job", down.then(work(3)), x -> x.job(2, 0), 0);
         Edge.answers("below it", down.then(work(3)), x -> x.job(3, 1), 0);
         Edge.answers("in tick 2", down.then(work(3)), x -> x.job(3, 2), 2);
+        // B has been over bay 2 and goes up to bay 4: in tick 4 it comes over bay 3, in tick 5 over bay 4.
+        Edge.Deed up = bays(0, 2, 4, 3);
+        Edge.answers("B over bay 3", up.then(work(5)), x -> x.crane(1, 0), 3);
+        Edge.answers("where B stands, its job being above it", up.then(work(6)), x -> x.job(3, 0), 0);
+        Edge.answers("when B has left it", up.then(work(7)), x -> x.job(3, 2), 6);
+        Edge.answers("it is A's", up.then(work(7)), x -> x.job(3, 1), 0);
         Edge.sentence("V: it may begin in that TICK");
         Edge.answers("moves in it", bays(2).then(work(1)), x -> x.crane(0, 0), 1);
         Edge.answers("lifts in it", bays(0).then(work(1)), x -> x.crane(0, 2), 1);

@@ -124,6 +124,25 @@ public final class EdgeYardTest {
         Edge.refused("the first", three, x -> x.dig(0), 1);
         Edge.refused("the last", three, x -> x.dig(2), 3);
         Edge.refused("from the last stack", yard(of(), of(), of(), of(0, 1)).then(come(0)), x -> x.dig(0), 30);
+        Edge.sentence("30 dig: as many as twelve LORRIES may need");
+        Edge.Deed long19 = yard(of(1, 7), of(0, 2, 4, 12), of(5, 8, 9, 11), of(3, 6, 10))
+                .then(come(5, 3, 1, 0, 9, 7, 8, 12, 6, 4, 11, 2));
+        Oracle slow = new Oracle();
+        for (int i = 0; i < 13; i++) {
+            slow.box(10, 0, 0);
+        }
+        int[] stacks = {1, 0, 1, 3, 1, 2, 3, 0, 2, 2, 3, 2, 1};
+        for (int i = 0; i < stacks.length; i++) {
+            slow.store(i, stacks[i]);
+        }
+        for (int box : of(5, 3, 1, 0, 9, 7, 8, 12, 6, 4, 11, 2)) {
+            slow.lorry(box);
+        }
+        Edge.refused("nineteen", long19, x -> x.digs(), 19);
+        for (int i = -1; i <= 19; i++) {
+            int at = i;
+            Edge.answers("dig(" + i + ")", long19, x -> x.dig(at), slow.dig(i));
+        }
         Edge.sentence("30 dig: NONE: not so many");
         Edge.refusedFor("dig(*)", three, (x, n) -> x.dig(n), -1, -1, 3, 35, 36, Edge.LEAST, Edge.GREATEST);
         Edge.refusedFor("dig(*) of none", FULL, (x, n) -> x.dig(n), -1, -1, 0);
@@ -166,6 +185,14 @@ public final class EdgeYardTest {
         Edge.refused("two at least", fewer, x -> x.least(), 2);
         Edge.refused("box 2 to stack 2", fewer, x -> x.leastDig(0), 32);
         Edge.refused("box 1 to stack 0", fewer, x -> x.leastDig(1), 30);
+        // Box 7 goes from a stack of its own onto box 2, so that the boxes above 0 stand on none that comes sooner.
+        Edge.Deed lone = yard(of(2), of(7), of(0, 1, 3, 5), of(4)).then(come(0, 4, 3, 7, 2));
+        Edge.refused("four", lone, x -> x.least(), 4);
+        int[] due = {10, 21, 20, 21};
+        for (int i = 0; i < due.length; i++) {
+            int at = i;
+            Edge.refused("dig " + i, lone, x -> x.leastDig(at), due[i]);
+        }
         Edge.Deed worse = yard(of(0, 1), of(4), of(8, 9, 10, 11), of(12, 13, 14, 15)).then(come(0, 4, 1));
         Edge.refused("box 1 must go onto 4", worse, x -> x.least(), 2);
         Edge.refused("to stack 1", worse, x -> x.leastDig(0), 1);
