@@ -166,6 +166,7 @@ public final class EdgeRuleTest {
         holds("weight * port - sort == 17", true);
         // The deepest that can be: on each of seven levels a sum and a product wait for one unit more.
         holds("511 == 1 + 2 * (1 + 2 * (1 + 2 * (1 + 2 * (1 + 2 * (1 + 2 * (1 + 2 * 3))))))", true);
+        holds("1 == 2 or 1 == 1 and 511 == 1 + 2 * (1 + 2 * (1 + 2 * (1 + 2 * (1 + 2 * (1 + 2 * (1 + 2 * 3))))))", true);
         Edge.sentence("I: LIT: 'not' LIT");
         Edge.Deed one = Edge.boxes(1).then(Edge.load(0, 0, 0));
         Edge.answers("not of the first alone", one.then(Edge.text("place a if not 1 == 2 and 1 == 2;")),
@@ -195,6 +196,10 @@ public final class EdgeRuleTest {
             holds(p + " - " + p + " == 0", true);
             holds("0 - " + p + " < 0", true);
             holds("0 - " + p + " - 1 < 0 - " + p, true);
+            Edge.Deed two = Edge.boxes(2).then(Edge.load(0, 0, 1)).then(Edge.load(1, 0, 2));
+            Edge.answers("a pair with " + p, two.then(Edge.text("pair a if 0 < row * " + p + ";")), x -> x.pairs(0), 2);
+            Edge.answers("a pair without " + p, two.then(Edge.text("pair a if orow * " + p + " <= 0;")), x -> x.pairs(0),
+                    0);
             holds("(0 - " + p + ") * (0 - " + p + ") == " + p + "*" + p, true);
         }
     }

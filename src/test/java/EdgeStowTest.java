@@ -109,6 +109,7 @@ public final class EdgeStowTest {
         Edge.refused("both into a hold", holds, x -> x.bestTwo(0, 1), 0);
         Edge.refused("tier 0 is one", holds.then(Edge.text("place a if tier == 1;")).then(Edge.load(2, 0, 0)),
                 x -> x.best(0), 1);
+        Edge.refused("both on tier 0", holds.then(Edge.text("place a if tier == 1;")), x -> x.bestTwo(0, 1), 1);
         Edge.refused("full holds", holds.then(x -> {
             for (int i = 0; i < 24; i++) {
                 x.load(i, i / 8, i / 2 % 4);
