@@ -6,8 +6,8 @@ import java.util.Comparator;
 import java.util.List;
 
 /**
- * Every call with every argument on either side of every number that the document names, in several states, held
- * against the Oracle; and that no call ever throws, whatever its arguments.
+ * Every call with all combinations of a list of numbers, in five states, held against the Oracle; none may throw. The
+ * list has the document's limits and their neighbours for calls of one or two numbers, fewer for those of more.
  */
 public final class GridTest {
     static final int[] MANY = {Integer.MIN_VALUE, Integer.MIN_VALUE + 1, -100000, -99999, -10000, -501, -22, -21, -3, -2,
