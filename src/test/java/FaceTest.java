@@ -39,10 +39,22 @@ public final class FaceTest {
     }
 
     public static void main(String[] args) throws IOException {
+        document();
         face();
         inside();
         source();
         Due.end();
+    }
+
+    /** That the list above is the document's own face, in its order. */
+    static void document() throws IOException {
+        String s = Files.readString(Path.of("../shared/DOC.md"), StandardCharsets.UTF_8);
+        Matcher m = Pattern.compile("(?m)^    public ((?:int|boolean) \\w+\\(.*\\));$").matcher(s);
+        List<String> told = new ArrayList<>();
+        while (m.find()) {
+            told.add(m.group(1).replaceAll("(int|boolean) \\w+(, |\\))", "$1$2").replace(", ", ","));
+        }
+        need("the document's face " + told, told.equals(Arrays.asList(FACE)));
     }
 
     static String told(Method m) {

@@ -366,6 +366,24 @@ public final class OracleTest {
         }
     }
 
+    /** Without this no yard would be so full that there is no room to dig. */
+    void fillYard() {
+        int full = 11 + r.nextInt(6);
+        for (int i = 0; i < 60 && o.count(5) < full; i++) {
+            if (o.boxes.size() < full) {
+                boxCall();
+            }
+            int b = aBoxThatIs(0);
+            int st = r.nextInt(4);
+            due("store(" + b + "," + st + ")", x.store(b, st), o.store(b, st));
+        }
+        int waiting = 3 + r.nextInt(8);
+        for (int i = 0; i < 20 && o.lorries.size() < waiting; i++) {
+            int b = aBoxThatIs(2);
+            due("lorry(" + b + ")", x.lorry(b), o.lorry(b));
+        }
+    }
+
     void run(int[] mix) {
         int all = 0;
         for (int m : mix) {
@@ -380,6 +398,9 @@ public final class OracleTest {
         }
         if (mix[3] >= 20) {
             fillHolds();
+        }
+        if (mix[7] >= 40) {
+            fillYard();
         }
         while (trail.size() < 512 && bad == 0) {
             int k = r.nextInt(all);
